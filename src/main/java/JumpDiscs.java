@@ -36,6 +36,8 @@ public final class JumpDiscs {
     private static final int AHEAD_NO = -10002;
 
     private static final int SHOTS_MOST = 24;
+    // Two LARGE DISCS that are this far apart by x or by y COVER no more.
+    private static final int WIDEST_COVER = 4;
     private static final int KEPT_MOST = 3;
     private static final int KINDS = 5;
     private static final int SEEN_MOST = 1000;
@@ -399,8 +401,11 @@ public final class JumpDiscs {
 
         private void lift(int disc) {
             int others = ~(1 << disc);
-            lying &= others;
             inCup &= others;
+            if (!doesLie(disc)) {
+                return;
+            }
+            lying &= others;
             coverers[disc] = 0;
             for (int other = 0; other < DISCS; other++) {
                 coverers[other] &= others;
@@ -750,6 +755,8 @@ public final class JumpDiscs {
         private int size = 0;
         private int placesFound = 0;
         private int firstFound = NONE;
+        // The TIME that places were last found by; NONE: the row is another since.
+        private int foundByTime = NONE;
         private final Game upToGap = new Game();
         private final Game trial = new Game();
 
@@ -761,12 +768,14 @@ public final class JumpDiscs {
             xs[size] = x;
             ys[size] = y;
             size++;
+            foundByTime = NONE;
             return size;
         }
 
         int clear() {
             int were = size;
             size = 0;
+            foundByTime = NONE;
             return were;
         }
 
@@ -789,27 +798,49 @@ public final class JumpDiscs {
             return gap;
         }
 
-        /** What goes ahead of the GAP is followed once, what comes behind it for each place. */
+        /**
+         * What goes ahead of the GAP is followed once, and what comes behind it once for all places that
+         * are far from each written one: only a place near to one can COVER or be COVERED.
+         */
         void findPlaces(int gap, int time) {
+            if (foundByTime == time) {
+                return;
+            }
+            foundByTime = time;
             placesFound = 0;
             firstFound = NONE;
             startOver(upToGap, time);
             if (firstWrongIn(upToGap, 0, gap) != NONE) {
                 return;
             }
+            boolean farCan = canComeTo(gap, TO_BASE, TO_BASE);
             for (int x = 0; x <= MAT_END; x++) {
                 for (int y = 0; y <= MAT_END; y++) {
-                    tryPlace(gap, x, y);
+                    if (isNearWritten(x, y) ? canComeTo(gap, x, y) : farCan) {
+                        countPlace(x, y);
+                    }
                 }
             }
-            tryPlace(gap, TO_CUP, TO_CUP);
+            if (canComeTo(gap, TO_CUP, TO_CUP)) {
+                countPlace(TO_CUP, TO_CUP);
+            }
         }
 
-        private void tryPlace(int gap, int x, int y) {
-            trial.copyFrom(upToGap);
-            if (!trial.follow(discs[gap], x, y) || firstWrongIn(trial, gap + 1, size) != NONE) {
-                return;
+        private boolean isNearWritten(int x, int y) {
+            for (int i = 0; i < size && i < SHOTS_MOST; i++) {
+                if (wayBetween(x, y, xs[i], ys[i]) < WIDEST_COVER) {
+                    return true;
+                }
             }
+            return false;
+        }
+
+        private boolean canComeTo(int gap, int x, int y) {
+            trial.copyFrom(upToGap);
+            return trial.follow(discs[gap], x, y) && firstWrongIn(trial, gap + 1, size) == NONE;
+        }
+
+        private void countPlace(int x, int y) {
             if (placesFound == 0) {
                 firstFound = 100 * x + y;
             }
