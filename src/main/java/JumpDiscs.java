@@ -200,17 +200,19 @@ public final class JumpDiscs {
         if (!isPlayer(player) || !within(what, 0, 2)) {
             return BEST_BAD;
         }
-        if (!adviser.findBest(now.board, player)) {
+        int worth = adviser.worthOfBest(now.board, player);
+        if (worth == 0) {
             return BEST_NO;
         }
-        return what == 0 ? adviser.disc : what == 1 ? adviser.aim : adviser.worth;
+        return what == 0 ? adviser.disc : what == 1 ? adviser.aim : worth;
     }
 
     public int ahead() {
         if (now.isOver()) {
             return AHEAD_NO;
         }
-        return bestWorth(now.turn) - bestWorth(now.playerBehind());
+        int own = adviser.worthOfBest(now.board, now.turn);
+        return own - adviser.worthOfBest(now.board, now.playerBehind());
     }
 
     public int write(int disc, int x, int y) {
@@ -287,7 +289,7 @@ public final class JumpDiscs {
             case 4:
                 return keptCount;
             case 5:
-                return board.howManyCovered();
+                return Integer.bitCount(board.covered);
             default:
                 return BAD;
         }
@@ -311,10 +313,6 @@ public final class JumpDiscs {
             shared += PLACE_TWELFTHS[place];
         }
         return alike == 0 ? 0 : shared / alike;
-    }
-
-    private int bestWorth(int player) {
-        return adviser.findBest(now.board, player) ? adviser.worth : 0;
     }
 
     private static boolean within(int v, int least, int most) {
@@ -354,10 +352,12 @@ public final class JumpDiscs {
     private static final class Board {
         private final int[] xs = new int[DISCS];
         private final int[] ys = new int[DISCS];
-        // Told as bits when a DISC comes to lie, over all that LIE then: so no order need be kept.
+        // As bits. A DISC that comes to lie is last of all, so it COVERS just what LIES under it then: no
+        // order of lying need be kept.
         private final int[] coverers = new int[DISCS];
         private int lying = 0;
         private int inCup = 0;
+        private int covered = 0;
 
         Board() {
             bringAllToBase();
@@ -375,6 +375,7 @@ public final class JumpDiscs {
             System.arraycopy(other.coverers, 0, coverers, 0, DISCS);
             lying = other.lying;
             inCup = other.inCup;
+            covered = other.covered;
         }
 
         /** To a place on THE MAT, last of all, or by a mark to BASE or into THE CUP. */
@@ -394,6 +395,7 @@ public final class JumpDiscs {
             for (int other = 0; other < DISCS; other++) {
                 if (doesLie(other) && isOverlap(disc, other)) {
                     coverers[other] |= 1 << disc;
+                    covered |= 1 << other;
                 }
             }
             lying |= 1 << disc;
@@ -407,8 +409,12 @@ public final class JumpDiscs {
             }
             lying &= others;
             coverers[disc] = 0;
+            covered = 0;
             for (int other = 0; other < DISCS; other++) {
                 coverers[other] &= others;
+                if (coverers[other] != 0) {
+                    covered |= 1 << other;
+                }
             }
         }
 
@@ -432,7 +438,7 @@ public final class JumpDiscs {
         }
 
         boolean isFree(int disc) {
-            return !isInCup(disc) && coverers[disc] == 0;
+            return ((inCup | covered) & 1 << disc) == 0;
         }
 
         int coveredBy(int disc) {
@@ -443,16 +449,6 @@ public final class JumpDiscs {
                 }
             }
             return bits;
-        }
-
-        int howManyCovered() {
-            int many = 0;
-            for (int disc = 0; disc < DISCS; disc++) {
-                if (coverers[disc] != 0) {
-                    many++;
-                }
-            }
-            return many;
         }
 
         int pileOf(int disc) {
@@ -479,14 +475,7 @@ public final class JumpDiscs {
         }
 
         int freeOf(int player) {
-            int bits = 0;
-            for (int i = 0; i < DISCS_OF_EACH; i++) {
-                int disc = player + PLAYERS * i;
-                if (isFree(disc)) {
-                    bits |= 1 << disc;
-                }
-            }
-            return bits;
+            return DISCS_OF_PLAYER_0 << player & ~(inCup | covered);
         }
 
         boolean isAllIn(int player) {
@@ -494,13 +483,9 @@ public final class JumpDiscs {
             return (inCup & own) == own;
         }
 
+        /** DISCS of one player are four bits apart. */
         boolean isAnyoneAllIn() {
-            for (int player = 0; player < PLAYERS; player++) {
-                if (isAllIn(player)) {
-                    return true;
-                }
-            }
-            return false;
+            return (inCup & inCup >> 4 & inCup >> 8 & inCup >> 12) != 0;
         }
 
         int scoreOf(int player) {
@@ -693,8 +678,8 @@ public final class JumpDiscs {
         private int aim = POT;
         private int worth = 0;
 
-        /** False: the player has no FREE DISC. */
-        boolean findBest(Board board, int player) {
+        /** CHANCE times GAIN; 0: the player has no FREE DISC. */
+        int worthOfBest(Board board, int player) {
             worth = 0;
             for (int i = 0; i < DISCS_OF_EACH; i++) {
                 int own = player + PLAYERS * i;
@@ -702,7 +687,7 @@ public final class JumpDiscs {
                     weighAims(board, own);
                 }
             }
-            return worth > 0;
+            return worth;
         }
 
         private void weighAims(Board board, int own) {
