@@ -898,9 +898,15 @@ public final class PromisesTest {
     due("1681 less 9 less 27", x.canBe(0), 1645);
     due("first: 0, 3", x.canBe(1), 3);
     x.wipe();
+    row(x, 0, 6, 6, 1, -1, -1, 2, 30, 10, 3, 10, 30, 0, 20, 20);
+    due("all but the 9 that cover 0, as it is shot again", x.canBe(0), 1681 - 9);
+    x.wipe();
     row(x, 0, 0, 0, 1, -1, -1, 2, 30, 10, 3, 10, 30, 0, 20, 20);
-    due("all but the 4 that cover 0, as it is shot again", x.canBe(0), 1681 - 4);
+    due("all but 4 of the corner", x.canBe(0), 1681 - 4);
     due("first", x.canBe(1), 2);
+    x.wipe();
+    row(x, 8, 9, 9, 9, -1, -1, 2, 30, 10, 3, 10, 30, 8, 20, 20);
+    due("two large: below 16 are 45 places", x.canBe(0), 1681 - 45);
     x.wipe();
     row(x, 0, 41, 41, 4, 41, 41, 8, 41, 41, 12, 20, 30, 1, -1, -1, 2, 20, 20, 3, 5, 5, 1, 30, 30);
     // 1 is next behind 3 only if 0 is passed over: if 1 covers 12, its last, at 20, 30: below 9 are 25 places.
