@@ -615,13 +615,16 @@ public final class JumpDiscs {
             return true;
         }
 
-        /** While THE GAME is over the TURN stays. */
+        /**
+         * The TURN goes on by a SHOT that ends THE GAME as by any other: put() and rule() may let it go on
+         * from there. One of the four always has a FREE DISC then, as none but the shooter can be all in.
+         */
         private void endTurn(boolean oneMore) {
             turnsGone++;
             if (!oneMore) {
                 stepTurn();
             }
-            for (int i = 0; i < PLAYERS && !isOver() && board.freeOf(turn) == 0; i++) {
+            for (int i = 0; i < PLAYERS && board.freeOf(turn) == 0; i++) {
                 stepTurn();
             }
         }
@@ -633,6 +636,7 @@ public final class JumpDiscs {
             }
         }
 
+        /** Here, behind put() and rule(), the TURN stays while THE GAME is over. */
         void passOverWithoutRounds() {
             for (int i = 0; i < PLAYERS && !isOver() && board.freeOf(turn) == 0; i++) {
                 turn = nextInRound(turn);

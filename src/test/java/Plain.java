@@ -98,7 +98,8 @@ final class Plain {
       gone++;
       if (gone >= time && endsToCome < 0) endsToCome = 6;
       boolean stays = potted;
-      while (!over() && (!stays || !hasFree(turn))) {
+      for (int steps = 0; !stays || !hasFree(turn); steps++) {
+        if (steps > 4) throw new IllegalStateException("none has a free disc behind a shot");
         stays = true;
         goOn(true);
       }

@@ -529,7 +529,71 @@ public final class PromisesTest {
     due("time not come", x.game(2), NONE);
     due("discs", x.game(4), 0);
     x.put(13, -1, -1);
-    due("its turn stayed", x.game(0), 1);
+    due("it was passed over, though the game was over", x.game(0), 2);
+  }
+
+  /** Player 3 has one DISC that is not in THE CUP, 3 at 20, 23, from where it POTS. */
+  private static JumpDiscs readyForTheLastPot(int turnsAhead) {
+    JumpDiscs x = ready();
+    x.rule(2, 10);
+    idle(x, turnsAhead);
+    for (int d = 7; d < 16; d += 4) x.put(d, 41, 41);
+    x.put(3, 20, 23);
+    return x;
+  }
+
+  private static void p9GameTurnBehindTheLastPot() {
+    JumpDiscs x = readyForTheLastPot(3);
+    putAll(x, 0, 5, 30);
+    x.put(9, 5, 30);
+    due("pots its last", x.shoot(3, 20, 22), 1);
+    due("over", x.game(3), 1);
+    // While it is over the TURN stays where the SHOT brought it, whoever is FREE again or COVERED.
+    x.put(9, 30, 5);
+    x.put(3, -1, -1);
+    due("3 and 0 were passed over", x.game(0), 1);
+    JumpDiscs y = readyForTheLastPot(11);
+    due("time is come", y.game(2), 5);
+    due("pots its last", y.shoot(3, 20, 22), 1);
+    due("the round in which it came ended", y.game(2), 5);
+    y.put(3, -1, -1);
+    due("turn", y.game(0), 0);
+    idle(y, 4);
+    due("one of five ended", y.game(2), 4);
+    JumpDiscs z = readyForTheLastPot(31);
+    due("one is left", z.game(2), 1);
+    due("pots its last", z.shoot(3, 20, 22), 1);
+    due("the last round ended too", z.game(2), 0);
+    z.put(3, -1, -1);
+    due("over by time as well", z.game(3), 1);
+    z.rule(2, 400);
+    due("goes on", z.game(0), 0);
+  }
+
+  private static void p9GameTurnBehindTheLastRound() {
+    JumpDiscs x = ready();
+    x.rule(2, 10);
+    idle(x, 31);
+    putAll(x, 0, 5, 30);
+    x.put(9, 5, 30);
+    due("3's, the last of the last round", x.shoot(3, 2, 38), 0);
+    due("over", x.game(3), 1);
+    x.put(9, 30, 5);
+    x.rule(2, 400);
+    due("0 was passed over by the shot, though the game was over", x.game(0), 1);
+    JumpDiscs y = ready();
+    y.rule(2, 10);
+    idle(y, 31);
+    y.put(7, 2, 38);
+    putAll(y, 0, 20, 4);
+    putAll(y, 1, 20, 4);
+    y.put(2, 20, 4);
+    due("blown", y.blow(7), 1 << 3 | 1 << 7);
+    due("over", y.game(3), 1);
+    y.put(2, 38, 38);
+    putAll(y, 0, 2, 2);
+    y.rule(2, 400);
+    due("0 and 1 were passed over by the blow", y.game(0), 2);
   }
 
   private static void p10Score() {
@@ -1100,6 +1164,7 @@ public final class PromisesTest {
     say("7"); p7ShootRefused(); p7ShootSpreads(); p7ShootRunsAndCup(); p7ShootRunsFromWhereItCameDown(); p7ShootLiesLast();
     say("8"); p8Blow(); p8BlowByNumbers();
     say("9"); p9GameTime(); p9GamePassedOver(); p9GameOneMore(); p9GameAllIn();
+    p9GameTurnBehindTheLastPot(); p9GameTurnBehindTheLastRound();
     say("10"); p10Score();
     say("11"); p11Twelfths();
     say("12"); p12Points();

@@ -66,6 +66,8 @@ public final class RandomRunsTest {
     if (plain.t.over() && plain.t.endsToCome != 0) met("over by cup");
     if (want == 0 && plain.t.turn != (turn + 1) % 4) met("passed over");
     if (want == 1 && plain.t.turn != turn) met("one more, passed over");
+    if (want == 0 && plain.t.over() && plain.t.turn != (turn + 1) % 4) met("over by time, passed over");
+    if (want == 1 && plain.t.over() && plain.t.turn != (turn + 1) % 4) met("over by cup, two passed over");
   }
 
   /** A SHOT that is allowed, if there is one. */
@@ -254,7 +256,8 @@ public final class RandomRunsTest {
   private void wantMet() {
     for (String what : new String[] {"put: goes on", "put: over", "put: passed over", "shoot: 1", "shoot: 0", "shoot: -2",
         "blow: 0", "blow: -2", "time comes, ends left 5", "time comes, ends left 6", "over by time", "over by cup",
-        "passed over", "one more, passed over", "rule: no", "rule: goes on", "rule: time is now", "best: no",
+        "passed over", "one more, passed over", "over by time, passed over",
+        "over by cup, two passed over", "rule: no", "rule: goes on", "rule: time is now", "best: no",
         "best: covers", "row: none wrong", "row: wrong", "row: full", "canBe: no", "canBe: none", "canBe: all",
         "canBe: some"}) {
       check.holds("met: " + what + " in " + met, met.getOrDefault(what, 0) > 0);
