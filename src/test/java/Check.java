@@ -15,6 +15,10 @@ final class Check {
     due(what, it ? 1 : 0, 1);
   }
 
+  int asked() {
+    return asked;
+  }
+
   boolean failed() {
     return wrong != 0;
   }

@@ -2,40 +2,7 @@
  * Each promise, worked out by hand. SEED 1 goes on to 48271, 182605794, 1291394886, 1914720637, 2078669041,
  * 407355683. A SMALL DISC aimed less than 8 away comes just where it is aimed, as m is 0.
  */
-public final class PromisesTest {
-  private static final int BAD = -1, NO = -2, FULL = -3, NONE = -4;
-  private static final int MIN = Integer.MIN_VALUE, MAX = Integer.MAX_VALUE;
-  private static final Check CHECK = new Check();
-  private static String promise = "";
-
-  private static void due(String what, int got, int want) { CHECK.due(promise + ": " + what, got, want); }
-
-  private static void at(JumpDiscs x, int disc, int px, int py) {
-    due("x of " + disc, x.about(disc, 1), px);
-    due("y of " + disc, x.about(disc, 2), py);
-  }
-
-  /** SMALL DISCS of the four far from all: a TURN that changes nothing else is a SHOT of one at its own place. */
-  private static JumpDiscs ready() {
-    JumpDiscs x = new JumpDiscs();
-    x.put(0, 2, 2);
-    x.put(1, 38, 2);
-    x.put(2, 38, 38);
-    x.put(3, 2, 38);
-    return x;
-  }
-
-  private static void idle(JumpDiscs x, int turns) {
-    for (int i = 0; i < turns; i++) {
-      int p = x.game(0);
-      due("an idle turn of " + p, p < 0 ? p : x.shoot(p, x.about(p, 1), x.about(p, 2)), 0);
-    }
-  }
-
-  private static void putAll(JumpDiscs x, int player, int px, int py) {
-    for (int d = player; d < 16; d += 4) x.put(d, px, py);
-  }
-
+public final class PromisesTest extends Bench {
   private static void p1NewObject() {
     JumpDiscs x = new JumpDiscs();
     int[] baseX = {0, 40, 40, 0}, baseY = {0, 0, 40, 40};
@@ -841,10 +808,6 @@ public final class PromisesTest {
     due("wrong", x.wrong(), 0);
   }
 
-  private static void row(JumpDiscs x, int... shots) {
-    for (int i = 0; i < shots.length; i += 3) x.write(shots[i], shots[i + 1], shots[i + 2]);
-  }
-
   private static void wrongOf(int want, int... shots) {
     JumpDiscs x = new JumpDiscs();
     x.put(0, 41, 41);
@@ -897,13 +860,6 @@ public final class PromisesTest {
     due("over", x.wrong(), 18);
     timeInRow();
   }
-
-  /**
-   * 0, 2 and 3 pot three each, and the fourth of each is covered by 1's 9, 13 and 5: then each shot of 1 is a
-   * round. With TIME 10 the thirteenth shot ends the round in which it came, the sixteenth the second of five.
-   */
-  private static final int[] ROUNDS_OF_ONE = {0, 41, 41, 4, 41, 41, 8, 41, 41, 12, 5, 5, 9, 5, 5, 2, 41, 41, 6, 41, 41,
-      10, 41, 41, 14, 10, 5, 3, 41, 41, 7, 41, 41, 11, 41, 41, 15, 15, 5, 13, 10, 5, 15, 15, 5, 5, 15, 5};
 
   private static void timeInRow() {
     JumpDiscs x = new JumpDiscs();
@@ -1152,7 +1108,7 @@ public final class PromisesTest {
     due("covered: 0 and 5", x.count(5), 2);
   }
 
-  private static void say(String name) { promise = "promise " + name; }
+  private static void say(String name) { says("promise " + name); }
 
   public static void main(String[] args) {
     say("1"); p1NewObject();
